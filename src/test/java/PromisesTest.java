@@ -498,6 +498,13 @@ public final class PromisesTest {
         // u = 950 + 11, v 27: c = 48 - (11 - 873) = 910, g = 35 - 11 = 24
         lies(x, "crossed", 13, 10, 0, 0, 11, 1, 985, 12, 1, -913);
         shape(x, "crossed", 13, 37, 685, 213, 3);
+        // u 300, v 250: c = 40 - (290 - (h - 250)) is 0 for 500, 1 for 501; g = 32
+        x.box(1, 500, 0);
+        x.box(1, 501, 0);
+        same("just far enough", x.signs(1, false, 0, true, 1, 14), 16);
+        lies(x, "just far enough", 16, 0, 0, 0, 1, 100, 300, 14, 100, -250);
+        same("one too near", x.signs(1, false, 0, true, 1, 15), 17);
+        lies(x, "one too near", 17, 0, 0, 0, 1, 100, 332, 15, 100, -219);
     }
 
     private static void promise10Wrong() {
