@@ -37,7 +37,8 @@ public final class FaceTest {
         Set<String> privateNames = new TreeSet<>();
         for (Field f : c.getDeclaredFields()) {
             if (!Modifier.isPrivate(f.getModifiers())) {
-                got.add(Modifier.toString(f.getModifiers()) + " " + f.getType() + " " + f.getName());
+                got.add(Modifier.toString(f.getModifiers()) + " " + f.getType() + " "
+                        + f.getName());
             }
         }
         for (Constructor<?> k : c.getDeclaredConstructors()) {

@@ -94,16 +94,19 @@ public final class ModelTest {
         }
         switch (next(mode == 3 ? 15 : 13)) {
             case 0: return new int[] {0, next(3), next(21), number(mode, -1000000, 1000000)};
-            case 1: return new int[] {1, seldom() ? among(-1, 2) : next(2), number(mode, 0, 1000000)};
+            case 1: return new int[] {1, seldom() ? among(-1, 2) : next(2),
+                number(mode, 0, 1000000)};
             case 2: return new int[] {2, number(mode, 0, 1000000), number(mode, -1000000, 1000000),
                 number(mode, -1000000, 1000000)};
             case 3: return new int[] {3, familyOf(), boxOf(m)};
-            case 4: return new int[] {4, familyOf(), boxOrNone(m), boxOrNone(m), boxOrNone(m), boxOf(m)};
+            case 4: return new int[] {4, familyOf(), boxOrNone(m), boxOrNone(m), boxOrNone(m),
+                boxOf(m)};
             case 5: return new int[] {5, familyOf(), number(next(3), 0, 100000000)};
             case 6: return new int[] {6, styleOf(), boxOf(m), boxOf(m),
                 next(3) == 0 ? 0 : number(mode, 0, 1000000)};
             case 7: return new int[] {7, styleOf(), boxOf(m), familyOf()};
-            case 8: return new int[] {8, styleOf(), next(2), boxOf(m), next(2), boxOrNone(m), boxOrNone(m)};
+            case 8: return new int[] {8, styleOf(), next(2), boxOf(m), next(2), boxOrNone(m),
+                boxOrNone(m)};
             case 9: return new int[] {9, styleOf(), boxOf(m), boxOrNone(m), boxOrNone(m)};
             case 10: return new int[] {10, styleOf(), familyOf(), boxOf(m), familyOf()};
             case 11: return new int[] {11, boxOf(m), number(mode, -1000000, 1000000), boxOf(m)};

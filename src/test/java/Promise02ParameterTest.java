@@ -38,8 +38,8 @@ public final class Promise02ParameterTest extends Checks {
 
     private static void otherValues() {
         for (int v : NO_VALUES) {
-            refused("v " + v + ", the first", ARGUMENT, Scenes::workshop, x -> x.parameter(0, 0, v));
-            refused("v " + v + ", the last", ARGUMENT, Scenes::workshop, x -> x.parameter(2, 20, v));
+            refused("first, v " + v, ARGUMENT, Scenes::workshop, x -> x.parameter(0, 0, v));
+            refused("last, v " + v, ARGUMENT, Scenes::workshop, x -> x.parameter(2, 20, v));
         }
     }
 

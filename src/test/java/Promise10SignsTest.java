@@ -385,7 +385,7 @@ public final class Promise10SignsTest extends Checks {
         int wide = Scenes.doubledWide(x, 524287);
         int a = x.box(95, 0, 0);
         x.set(0, 4000);
-        same("the greatest int", x.told(x.signs(TEXT, CRAMPED, wide, LETTER, a, NONE), 0), MOST_INT);
+        same("greatest int", x.told(x.signs(TEXT, CRAMPED, wide, LETTER, a, NONE), 0), MOST_INT);
         x.set(0, 4001);
         same("one more", x.told(x.signs(TEXT, CRAMPED, wide, LETTER, NONE, a), 0), LEAST_INT);
         same("one more, both", x.told(x.signs(TEXT, CRAMPED, wide, LETTER, a, a), 0), LEAST_INT);

@@ -1,106 +1,36 @@
 /** For each promise ordinary inputs, the edges that the document names, and wrong inputs. */
-public final class PromisesTest {
-
-    private static final int NONE = FormulaShapes.NONE;
-    private static final Class<?> INDEX = IndexOutOfBoundsException.class;
-    private static final Class<?> ARGUMENT = IllegalArgumentException.class;
-    private static final Class<?> STATE = IllegalStateException.class;
-    private static final Class<?> UNSUPPORTED = UnsupportedOperationException.class;
-
-    private static int wrong = 0;
-
-    private interface Call {
-        void run();
-    }
+public final class PromisesTest extends Checks {
 
     public static void main(String[] args) {
-        promise1NewObject();
-        promise2Parameter();
-        promise3Set();
-        promise4Box();
-        promise5Sign();
-        promise6Pieces();
-        promise7SignOf();
-        promise7PutTogether();
-        promise8FractionWithLine();
-        promise8FractionBare();
-        promise8Wrong();
-        promise9Root();
-        promise9RootPutTogether();
-        promise9Wrong();
-        promise10SignsAbove();
-        promise10SignsBelow();
-        promise10SignsBoth();
-        promise10Wrong();
-        promise11Limits();
-        promise11Wrong();
-        promise12Brackets();
-        promise12Wrong();
-        promise13Row();
-        promise14Centre();
-        promise15Told();
-        promise16Part();
-        promise17Boxes();
-        numbersWrapAround();
-        System.out.println(wrong == 0 ? "all promises hold" : wrong + " answers are wrong");
-        if (wrong != 0) {
-            System.exit(1);
-        }
-    }
-
-    private static void same(String what, int got, int due) {
-        if (got != due) {
-            wrong++;
-            System.out.println(what + ": answered " + got + ", due is " + due);
-        }
-    }
-
-    /** The very class, so that what the machine throws by itself never passes. */
-    private static void thrown(String what, Class<?> due, FormulaShapes x, Call call) {
-        int before = x.boxes();
-        Class<?> got = null;
-        try {
-            call.run();
-        } catch (RuntimeException e) {
-            got = e.getClass();
-        }
-        if (got != due) {
-            wrong++;
-            System.out.println(what + ": threw " + got + ", due is " + due);
-        }
-        same(what + ", boxes() after it", x.boxes(), before);
-    }
-
-    private static void shape(FormulaShapes x, String what, int box, int... due) {
-        for (int i = 0; i < 4; i++) {
-            same(what + ", told " + i, x.told(box, i), due[i]);
-        }
-    }
-
-    /** Rows of box, x, y for every part that is a box. */
-    private static void lies(FormulaShapes x, String what, int box, int... due) {
-        for (int i = 0; 3 * i < due.length; i++) {
-            for (int k = 0; k < 3; k++) {
-                same(what + ", part " + i + " " + k, x.part(box, i, k), due[3 * i + k]);
-            }
-            int inside = due[3 * i];
-            for (int k = 0; inside != NONE && k < 3; k++) {
-                same(what + ", part " + i + " size " + k, x.part(box, i, 3 + k), x.told(inside, k));
-            }
-        }
-    }
-
-    private static void rule(FormulaShapes x, String what, int box, int i, int width, int height) {
-        same(what + ", rule", x.part(box, i, 0), NONE);
-        same(what + ", rule's width", x.part(box, i, 3), width);
-        same(what + ", rule's height", x.part(box, i, 4), height);
-        same(what + ", rule's depth", x.part(box, i, 5), 0);
-    }
-
-    private static void parameters(FormulaShapes x, int size, int... kv) {
-        for (int i = 0; i + 1 < kv.length; i += 2) {
-            x.parameter(size, kv[i], kv[i + 1]);
-        }
+        test("promise 1: new object", PromisesTest::promise1NewObject);
+        test("promise 2: parameter", PromisesTest::promise2Parameter);
+        test("promise 3: set", PromisesTest::promise3Set);
+        test("promise 4: box", PromisesTest::promise4Box);
+        test("promise 5: sign", PromisesTest::promise5Sign);
+        test("promise 6: pieces", PromisesTest::promise6Pieces);
+        test("promise 7: signOf", PromisesTest::promise7SignOf);
+        test("promise 7: put together", PromisesTest::promise7PutTogether);
+        test("promise 8: fraction with line", PromisesTest::promise8FractionWithLine);
+        test("promise 8: fraction bare", PromisesTest::promise8FractionBare);
+        test("promise 8: wrong", PromisesTest::promise8Wrong);
+        test("promise 9: root", PromisesTest::promise9Root);
+        test("promise 9: root put together", PromisesTest::promise9RootPutTogether);
+        test("promise 9: wrong", PromisesTest::promise9Wrong);
+        test("promise 10: signs above", PromisesTest::promise10SignsAbove);
+        test("promise 10: signs below", PromisesTest::promise10SignsBelow);
+        test("promise 10: signs both", PromisesTest::promise10SignsBoth);
+        test("promise 10: wrong", PromisesTest::promise10Wrong);
+        test("promise 11: limits", PromisesTest::promise11Limits);
+        test("promise 11: wrong", PromisesTest::promise11Wrong);
+        test("promise 12: brackets", PromisesTest::promise12Brackets);
+        test("promise 12: wrong", PromisesTest::promise12Wrong);
+        test("promise 13: row", PromisesTest::promise13Row);
+        test("promise 14: centre", PromisesTest::promise14Centre);
+        test("promise 15: told", PromisesTest::promise15Told);
+        test("promise 16: part", PromisesTest::promise16Part);
+        test("promise 17: boxes", PromisesTest::promise17Boxes);
+        test("numbers wrap around", PromisesTest::numbersWrapAround);
+        end();
     }
 
     private static FormulaShapes full() {
@@ -122,7 +52,7 @@ public final class PromisesTest {
         }
         for (int f = 0; f < 8; f++) {
             int family = f;
-            thrown("a new family's sign", STATE, x, () -> x.signOf(family, 0));
+            thrown("a new family's sign", STATE, x, y -> y.signOf(family, 0));
         }
         same("SPACE at first", x.set(0, 0), 0);
         same("SHORT at first", x.set(1, 0), 0);
@@ -138,13 +68,13 @@ public final class PromisesTest {
         }
         same("the least value", x.parameter(2, 20, 1000000), -1000000);
         same("the greatest value", x.parameter(2, 20, 0), 1000000);
-        thrown("size -1", INDEX, x, () -> x.parameter(-1, 0, 0));
-        thrown("size 3", INDEX, x, () -> x.parameter(3, 0, 0));
-        thrown("k -1", INDEX, x, () -> x.parameter(0, -1, 0));
-        thrown("k 21", INDEX, x, () -> x.parameter(0, 21, 0));
-        thrown("k before v", INDEX, x, () -> x.parameter(0, 21, 1000001));
-        thrown("v too great", ARGUMENT, x, () -> x.parameter(2, 20, 1000001));
-        thrown("v too small", ARGUMENT, x, () -> x.parameter(2, 20, -1000001));
+        thrown("size -1", INDEX, x, y -> y.parameter(-1, 0, 0));
+        thrown("size 3", INDEX, x, y -> y.parameter(3, 0, 0));
+        thrown("k -1", INDEX, x, y -> y.parameter(0, -1, 0));
+        thrown("k 21", INDEX, x, y -> y.parameter(0, 21, 0));
+        thrown("k before v", INDEX, x, y -> y.parameter(0, 21, 1000001));
+        thrown("v too great", ARGUMENT, x, y -> y.parameter(2, 20, 1000001));
+        thrown("v too small", ARGUMENT, x, y -> y.parameter(2, 20, -1000001));
         same("nothing was changed", x.parameter(2, 20, 0), 0);
     }
 
@@ -152,10 +82,10 @@ public final class PromisesTest {
         FormulaShapes x = new FormulaShapes();
         same("SPACE", x.set(0, 1000000), 0);
         same("SHORT", x.set(1, 7), 0);
-        thrown("what -1", INDEX, x, () -> x.set(-1, 0));
-        thrown("what 2", INDEX, x, () -> x.set(2, -1));
-        thrown("v below 0", ARGUMENT, x, () -> x.set(0, -1));
-        thrown("v too great", ARGUMENT, x, () -> x.set(1, 1000001));
+        thrown("what -1", INDEX, x, y -> y.set(-1, 0));
+        thrown("what 2", INDEX, x, y -> y.set(2, -1));
+        thrown("v below 0", ARGUMENT, x, y -> y.set(0, -1));
+        thrown("v too great", ARGUMENT, x, y -> y.set(1, 1000001));
         same("SPACE was", x.set(0, 0), 1000000);
         same("SHORT was", x.set(1, 0), 7);
     }
@@ -166,30 +96,30 @@ public final class PromisesTest {
         same("second", x.box(1000000, 1000000, 1000000), 1);
         shape(x, "first", 0, 0, -1000000, -1000000, 0);
         shape(x, "second", 1, 1000000, 1000000, 1000000, 0);
-        thrown("width -1", ARGUMENT, x, () -> x.box(-1, 0, 0));
-        thrown("width", ARGUMENT, x, () -> x.box(1000001, 0, 0));
-        thrown("height", ARGUMENT, x, () -> x.box(0, 1000001, 0));
-        thrown("height below", ARGUMENT, x, () -> x.box(0, -1000001, 0));
-        thrown("depth", ARGUMENT, x, () -> x.box(0, 0, 1000001));
-        thrown("depth below", ARGUMENT, x, () -> x.box(0, 0, -1000001));
+        thrown("width -1", ARGUMENT, x, y -> y.box(-1, 0, 0));
+        thrown("width", ARGUMENT, x, y -> y.box(1000001, 0, 0));
+        thrown("height", ARGUMENT, x, y -> y.box(0, 1000001, 0));
+        thrown("height below", ARGUMENT, x, y -> y.box(0, -1000001, 0));
+        thrown("depth", ARGUMENT, x, y -> y.box(0, 0, 1000001));
+        thrown("depth below", ARGUMENT, x, y -> y.box(0, 0, -1000001));
         FormulaShapes f = full();
-        thrown("no room", UNSUPPORTED, f, () -> f.box(0, 0, 0));
-        thrown("argument before room", ARGUMENT, f, () -> f.box(-1, 0, 0));
+        thrown("no room", UNSUPPORTED, f, y -> y.box(0, 0, 0));
+        thrown("argument before room", ARGUMENT, f, y -> y.box(-1, 0, 0));
     }
 
     private static void promise5Sign() {
         FormulaShapes x = new FormulaShapes();
         x.box(1, 2, 3);
-        thrown("family 8", INDEX, x, () -> x.sign(8, 0));
-        thrown("family -1", INDEX, x, () -> x.sign(-1, 0));
-        thrown("box 1", INDEX, x, () -> x.sign(0, 1));
-        thrown("box -1", INDEX, x, () -> x.sign(0, NONE));
+        thrown("family 8", INDEX, x, y -> y.sign(8, 0));
+        thrown("family -1", INDEX, x, y -> y.sign(-1, 0));
+        thrown("box 1", INDEX, x, y -> y.sign(0, 1));
+        thrown("box -1", INDEX, x, y -> y.sign(0, NONE));
         for (int i = 1; i <= 4; i++) {
             same("how many", x.sign(7, 0), i);
         }
         same("another family", x.sign(6, 0), 1);
-        thrown("a fifth", UNSUPPORTED, x, () -> x.sign(7, 0));
-        thrown("index first", INDEX, x, () -> x.sign(7, 1));
+        thrown("a fifth", UNSUPPORTED, x, y -> y.sign(7, 0));
+        thrown("index first", INDEX, x, y -> y.sign(7, 1));
     }
 
     private static void promise6Pieces() {
@@ -197,15 +127,15 @@ public final class PromisesTest {
         x.box(1, 10, 0);
         x.box(1, 5, -5);
         x.box(1, 0, 1);
-        thrown("family 8", INDEX, x, () -> x.pieces(8, NONE, NONE, NONE, 0));
-        thrown("family -1", INDEX, x, () -> x.pieces(-1, NONE, NONE, NONE, 0));
-        thrown("upper", INDEX, x, () -> x.pieces(0, 3, NONE, NONE, 0));
-        thrown("middle", INDEX, x, () -> x.pieces(0, NONE, -2, NONE, 0));
-        thrown("lower", INDEX, x, () -> x.pieces(0, NONE, NONE, 3, 0));
-        thrown("repeated", INDEX, x, () -> x.pieces(0, NONE, NONE, NONE, NONE));
-        thrown("repeated is 0 high", ARGUMENT, x, () -> x.pieces(0, 0, 0, 0, 1));
-        thrown("index first", INDEX, x, () -> x.pieces(0, 3, 0, 0, 1));
-        thrown("still no pieces", STATE, x, () -> x.signOf(0, 0));
+        thrown("family 8", INDEX, x, y -> y.pieces(8, NONE, NONE, NONE, 0));
+        thrown("family -1", INDEX, x, y -> y.pieces(-1, NONE, NONE, NONE, 0));
+        thrown("upper", INDEX, x, y -> y.pieces(0, 3, NONE, NONE, 0));
+        thrown("middle", INDEX, x, y -> y.pieces(0, NONE, -2, NONE, 0));
+        thrown("lower", INDEX, x, y -> y.pieces(0, NONE, NONE, 3, 0));
+        thrown("repeated", INDEX, x, y -> y.pieces(0, NONE, NONE, NONE, NONE));
+        thrown("repeated is 0 high", ARGUMENT, x, y -> y.pieces(0, 0, 0, 0, 1));
+        thrown("index first", INDEX, x, y -> y.pieces(0, 3, 0, 0, 1));
+        thrown("still no pieces", STATE, x, y -> y.signOf(0, 0));
         x.pieces(0, NONE, NONE, NONE, 2);
         same("pieces are there", x.signOf(0, 5), 3);
         shape(x, "five of 1", 3, 1, 5, 0, 5);
@@ -231,11 +161,11 @@ public final class PromisesTest {
         x.sign(1, 2);
         same("a box below 0 is the last", x.signOf(1, 0), 2);
         same("no box was made", x.boxes(), 3);
-        thrown("family 8", INDEX, x, () -> x.signOf(8, -1));
-        thrown("family -1", INDEX, x, () -> x.signOf(-1, 0));
-        thrown("least -1", ARGUMENT, x, () -> x.signOf(2, -1));
-        thrown("least", ARGUMENT, x, () -> x.signOf(0, 100000001));
-        thrown("no sign", STATE, x, () -> x.signOf(2, 0));
+        thrown("family 8", INDEX, x, y -> y.signOf(8, -1));
+        thrown("family -1", INDEX, x, y -> y.signOf(-1, 0));
+        thrown("least -1", ARGUMENT, x, y -> y.signOf(2, -1));
+        thrown("least", ARGUMENT, x, y -> y.signOf(0, 100000001));
+        thrown("no sign", STATE, x, y -> y.signOf(2, 0));
     }
 
     private static void promise7PutTogether() {
@@ -273,17 +203,17 @@ public final class PromisesTest {
         same("pieces where none is", x.signOf(0, 16), 11);
         FormulaShapes f = full();
         f.pieces(0, NONE, NONE, NONE, 0);
-        thrown("no room", UNSUPPORTED, f, () -> f.signOf(0, 10));
-        thrown("state before room", STATE, f, () -> f.signOf(1, 10));
+        thrown("no room", UNSUPPORTED, f, y -> y.signOf(0, 10));
+        thrown("state before room", STATE, f, y -> y.signOf(1, 10));
         f.sign(0, 0);
         same("no room is needed", f.signOf(0, 5), 0);
     }
 
     private static FormulaShapes withFractionParameters() {
         FormulaShapes x = new FormulaShapes();
-        parameters(x, 0, 0, 100, 1, 500, 2, 300, 3, 350, 4, 400, 5, 200, 13, 20);
-        parameters(x, 1, 0, 90, 1, 7000, 2, 3000, 3, 3500, 4, 8000, 5, 2000, 13, 21);
-        parameters(x, 2, 0, -80, 1, 9000, 2, 5000, 3, 5500, 4, 9500, 5, 4000, 13, 22);
+        Scenes.parameters(x, 0, 0, 100, 1, 500, 2, 300, 3, 350, 4, 400, 5, 200, 13, 20);
+        Scenes.parameters(x, 1, 0, 90, 1, 7000, 2, 3000, 3, 3500, 4, 8000, 5, 2000, 13, 21);
+        Scenes.parameters(x, 2, 0, -80, 1, 9000, 2, 5000, 3, 5500, 4, 9500, 5, 4000, 13, 22);
         x.box(101, 60, 40);
         x.box(200, 90, 30);
         x.box(11, 10, 300);
@@ -336,23 +266,23 @@ public final class PromisesTest {
 
     private static void promise8Wrong() {
         FormulaShapes x = withFractionParameters();
-        thrown("n", INDEX, x, () -> x.fraction(0, 4, 0, 0));
-        thrown("d", INDEX, x, () -> x.fraction(0, 0, NONE, 0));
-        thrown("index first", INDEX, x, () -> x.fraction(4, 0, 4, -1));
-        thrown("style 4", ARGUMENT, x, () -> x.fraction(4, 0, 0, 0));
-        thrown("style -1", ARGUMENT, x, () -> x.fraction(-1, 0, 0, 0));
-        thrown("thick -1", ARGUMENT, x, () -> x.fraction(0, 0, 0, -1));
-        thrown("thick", ARGUMENT, x, () -> x.fraction(0, 0, 0, 1000001));
+        thrown("n", INDEX, x, y -> y.fraction(0, 4, 0, 0));
+        thrown("d", INDEX, x, y -> y.fraction(0, 0, NONE, 0));
+        thrown("index first", INDEX, x, y -> y.fraction(4, 0, 4, -1));
+        thrown("style 4", ARGUMENT, x, y -> y.fraction(4, 0, 0, 0));
+        thrown("style -1", ARGUMENT, x, y -> y.fraction(-1, 0, 0, 0));
+        thrown("thick -1", ARGUMENT, x, y -> y.fraction(0, 0, 0, -1));
+        thrown("thick", ARGUMENT, x, y -> y.fraction(0, 0, 0, 1000001));
         same("the greatest thick", x.fraction(0, 0, 0, 1000000), 4);
         FormulaShapes f = full();
-        thrown("no room", UNSUPPORTED, f, () -> f.fraction(0, 0, 0, 0));
-        thrown("argument before room", ARGUMENT, f, () -> f.fraction(0, 0, 0, -1));
+        thrown("no room", UNSUPPORTED, f, y -> y.fraction(0, 0, 0, 0));
+        thrown("argument before room", ARGUMENT, f, y -> y.fraction(0, 0, 0, -1));
     }
 
     private static void promise9Root() {
         FormulaShapes x = new FormulaShapes();
-        parameters(x, 0, 13, 20, 14, -403);
-        parameters(x, 1, 13, -41, 14, 900);
+        Scenes.parameters(x, 0, 13, 20, 14, -403);
+        Scenes.parameters(x, 1, 13, -41, 14, 900);
         x.box(50, 70, 30);
         x.box(9, 15, 300);
         x.box(8, 15, 60);
@@ -384,7 +314,7 @@ public final class PromisesTest {
 
     private static void promise9RootPutTogether() {
         FormulaShapes x = new FormulaShapes();
-        parameters(x, 0, 13, 20, 14, 400);
+        Scenes.parameters(x, 0, 13, 20, 14, 400);
         x.box(50, 70, 30);
         x.box(9, 15, 85);
         x.pieces(0, NONE, NONE, NONE, 1);
@@ -404,27 +334,28 @@ public final class PromisesTest {
     private static void promise9Wrong() {
         FormulaShapes x = new FormulaShapes();
         x.box(50, 70, 30);
-        thrown("x", INDEX, x, () -> x.root(0, 1, 0));
-        thrown("family 8", INDEX, x, () -> x.root(9, 0, 8));
-        thrown("family -1", INDEX, x, () -> x.root(0, 0, -1));
-        thrown("style", ARGUMENT, x, () -> x.root(4, 0, 0));
-        thrown("no sign", STATE, x, () -> x.root(3, 0, 0));
+        thrown("x", INDEX, x, y -> y.root(0, 1, 0));
+        thrown("family 8", INDEX, x, y -> y.root(9, 0, 8));
+        thrown("family -1", INDEX, x, y -> y.root(0, 0, -1));
+        thrown("style", ARGUMENT, x, y -> y.root(4, 0, 0));
+        thrown("no sign", STATE, x, y -> y.root(3, 0, 0));
         for (int i = 1; i < 119; i++) {
             x.box(1, 1, 1);
         }
         x.pieces(0, NONE, NONE, NONE, 1);
-        thrown("no room for two", UNSUPPORTED, x, () -> x.root(0, 0, 0));
+        thrown("no room for two", UNSUPPORTED, x, y -> y.root(0, 0, 0));
         x.sign(1, 0);
         same("room for one", x.root(0, 0, 1), 119);
-        thrown("no room for one", UNSUPPORTED, x, () -> x.root(0, 0, 1));
-        thrown("state before room", STATE, x, () -> x.root(0, 0, 2));
+        thrown("no room for one", UNSUPPORTED, x, y -> y.root(0, 0, 1));
+        thrown("state before room", STATE, x, y -> y.root(0, 0, 2));
     }
 
     private static FormulaShapes withSignParameters() {
         FormulaShapes x = new FormulaShapes();
-        parameters(x, 0, 6, 400, 7, 300, 8, 200, 9, 150, 10, 250, 11, 9999, 12, 9999, 13, 10, 14, -403);
-        parameters(x, 1, 6, 41, 7, 31, 8, 21, 9, 16, 10, 26, 11, 50, 12, 70, 13, 11, 14, 43);
-        parameters(x, 2, 6, 42, 7, 32, 8, 22, 9, 17, 10, 27, 11, 15, 12, 19, 13, 12, 14, 44);
+        Scenes.parameters(x, 0, 6, 400, 7, 300, 8, 200, 9, 150, 10, 250, 11, 9999, 12, 9999, 13, 10,
+                14, -403);
+        Scenes.parameters(x, 1, 6, 41, 7, 31, 8, 21, 9, 16, 10, 26, 11, 50, 12, 70, 13, 11, 14, 43);
+        Scenes.parameters(x, 2, 6, 42, 7, 32, 8, 22, 9, 17, 10, 27, 11, 15, 12, 19, 13, 12, 14, 44);
         x.set(0, 33);
         x.box(100, 600, 90);
         x.box(20, 30, 10);
@@ -509,21 +440,21 @@ public final class PromisesTest {
 
     private static void promise10Wrong() {
         FormulaShapes x = withSignParameters();
-        thrown("b", INDEX, x, () -> x.signs(0, false, NONE, false, 0, 0));
-        thrown("a", INDEX, x, () -> x.signs(0, false, 0, false, 5, 0));
-        thrown("s", INDEX, x, () -> x.signs(0, false, 0, false, 0, -2));
-        thrown("index first", INDEX, x, () -> x.signs(4, false, 5, false, NONE, NONE));
-        thrown("style", ARGUMENT, x, () -> x.signs(4, false, 0, false, 0, 0));
-        thrown("both lack", ARGUMENT, x, () -> x.signs(0, false, 0, false, NONE, NONE));
+        thrown("b", INDEX, x, y -> y.signs(0, false, NONE, false, 0, 0));
+        thrown("a", INDEX, x, y -> y.signs(0, false, 0, false, 5, 0));
+        thrown("s", INDEX, x, y -> y.signs(0, false, 0, false, 0, -2));
+        thrown("index first", INDEX, x, y -> y.signs(4, false, 5, false, NONE, NONE));
+        thrown("style", ARGUMENT, x, y -> y.signs(4, false, 0, false, 0, 0));
+        thrown("both lack", ARGUMENT, x, y -> y.signs(0, false, 0, false, NONE, NONE));
         FormulaShapes f = full();
-        thrown("no room", UNSUPPORTED, f, () -> f.signs(0, false, 0, false, 0, 0));
-        thrown("argument before room", ARGUMENT, f, () -> f.signs(0, true, 0, false, NONE, NONE));
+        thrown("no room", UNSUPPORTED, f, y -> y.signs(0, false, 0, false, 0, 0));
+        thrown("argument before room", ARGUMENT, f, y -> y.signs(0, true, 0, false, NONE, NONE));
     }
 
     private static void promise11Limits() {
         FormulaShapes x = new FormulaShapes();
-        parameters(x, 0, 15, 20, 16, 30, 17, 70, 18, 95, 19, 5);
-        parameters(x, 1, 15, 21, 16, 31, 17, 20, 18, 30, 19, -6);
+        Scenes.parameters(x, 0, 15, 20, 16, 30, 17, 70, 18, 95, 19, 5);
+        Scenes.parameters(x, 1, 15, 21, 16, 31, 17, 20, 18, 30, 19, -6);
         x.box(100, 200, 40);
         x.box(33, 10, 15);
         x.box(151, 80, 8);
@@ -546,20 +477,20 @@ public final class PromisesTest {
     private static void promise11Wrong() {
         FormulaShapes x = new FormulaShapes();
         x.box(1, 1, 1);
-        thrown("b", INDEX, x, () -> x.limits(0, 1, 0, 0));
-        thrown("a", INDEX, x, () -> x.limits(0, 0, -2, 0));
-        thrown("s", INDEX, x, () -> x.limits(0, 0, 0, 1));
-        thrown("index first", INDEX, x, () -> x.limits(-1, NONE, NONE, NONE));
-        thrown("style", ARGUMENT, x, () -> x.limits(-1, 0, 0, 0));
-        thrown("both lack", ARGUMENT, x, () -> x.limits(0, 0, NONE, NONE));
+        thrown("b", INDEX, x, y -> y.limits(0, 1, 0, 0));
+        thrown("a", INDEX, x, y -> y.limits(0, 0, -2, 0));
+        thrown("s", INDEX, x, y -> y.limits(0, 0, 0, 1));
+        thrown("index first", INDEX, x, y -> y.limits(-1, NONE, NONE, NONE));
+        thrown("style", ARGUMENT, x, y -> y.limits(-1, 0, 0, 0));
+        thrown("both lack", ARGUMENT, x, y -> y.limits(0, 0, NONE, NONE));
         FormulaShapes f = full();
-        thrown("no room", UNSUPPORTED, f, () -> f.limits(0, 0, 0, 0));
-        thrown("argument before room", ARGUMENT, f, () -> f.limits(0, 0, NONE, NONE));
+        thrown("no room", UNSUPPORTED, f, y -> y.limits(0, 0, 0, 0));
+        thrown("argument before room", ARGUMENT, f, y -> y.limits(0, 0, NONE, NONE));
     }
 
     private static void promise12Brackets() {
         FormulaShapes x = new FormulaShapes();
-        parameters(x, 0, 0, 100);
+        Scenes.parameters(x, 0, 0, 100);
         x.box(50, 1150, 200);
         x.box(7, 900, 901);
         x.box(9, 1900, 201);
@@ -598,21 +529,21 @@ public final class PromisesTest {
         FormulaShapes x = new FormulaShapes();
         x.box(1, 1, 1);
         x.sign(0, 0);
-        thrown("left", INDEX, x, () -> x.brackets(0, 8, 0, 0));
-        thrown("x", INDEX, x, () -> x.brackets(0, 0, 1, 0));
-        thrown("right", INDEX, x, () -> x.brackets(4, 1, 0, -1));
-        thrown("style", ARGUMENT, x, () -> x.brackets(4, 1, 0, 0));
-        thrown("no left sign", STATE, x, () -> x.brackets(0, 1, 0, 0));
-        thrown("no right sign", STATE, x, () -> x.brackets(0, 0, 0, 1));
+        thrown("left", INDEX, x, y -> y.brackets(0, 8, 0, 0));
+        thrown("x", INDEX, x, y -> y.brackets(0, 0, 1, 0));
+        thrown("right", INDEX, x, y -> y.brackets(4, 1, 0, -1));
+        thrown("style", ARGUMENT, x, y -> y.brackets(4, 1, 0, 0));
+        thrown("no left sign", STATE, x, y -> y.brackets(0, 1, 0, 0));
+        thrown("no right sign", STATE, x, y -> y.brackets(0, 0, 0, 1));
         x.box(1, 100, 0);
         for (int i = 2; i < 118; i++) {
             x.box(1, 1, 1);
         }
         x.pieces(1, NONE, NONE, NONE, 0);
-        thrown("no room for three", UNSUPPORTED, x, () -> x.brackets(0, 1, 1, 1));
+        thrown("no room for three", UNSUPPORTED, x, y -> y.brackets(0, 1, 1, 1));
         same("room for two", x.brackets(0, 0, 1, 1), 119);
-        thrown("no room for one", UNSUPPORTED, x, () -> x.brackets(0, 0, 0, 0));
-        thrown("state before room", STATE, x, () -> x.brackets(0, 0, 0, 2));
+        thrown("no room for one", UNSUPPORTED, x, y -> y.brackets(0, 0, 0, 0));
+        thrown("state before room", STATE, x, y -> y.brackets(0, 0, 0, 2));
     }
 
     private static void promise13Row() {
@@ -626,13 +557,13 @@ public final class PromisesTest {
         shape(x, "a gap below 0", 3, -999970, 5, -3, 2);
         lies(x, "a gap below 0", 3, 1, 0, 0, 0, -999980, 0);
         same("the greatest gap", x.row(0, 1000000, 0), 4);
-        thrown("a", INDEX, x, () -> x.row(5, 0, 0));
-        thrown("b", INDEX, x, () -> x.row(0, 1000001, NONE));
-        thrown("gap", ARGUMENT, x, () -> x.row(0, 1000001, 0));
-        thrown("gap below", ARGUMENT, x, () -> x.row(0, -1000001, 0));
+        thrown("a", INDEX, x, y -> y.row(5, 0, 0));
+        thrown("b", INDEX, x, y -> y.row(0, 1000001, NONE));
+        thrown("gap", ARGUMENT, x, y -> y.row(0, 1000001, 0));
+        thrown("gap below", ARGUMENT, x, y -> y.row(0, -1000001, 0));
         FormulaShapes f = full();
-        thrown("no room", UNSUPPORTED, f, () -> f.row(0, 0, 0));
-        thrown("argument before room", ARGUMENT, f, () -> f.row(0, 1000001, 0));
+        thrown("no room", UNSUPPORTED, f, y -> y.row(0, 0, 0));
+        thrown("argument before room", ARGUMENT, f, y -> y.row(0, 1000001, 0));
     }
 
     private static void promise14Centre() {
@@ -653,24 +584,24 @@ public final class PromisesTest {
         shape(x, "script", 4, 10, -67, 134, 1);
         same("least", x.centre(3, 0), 5);
         lies(x, "least", 5, 0, 0, -10);
-        thrown("x", INDEX, x, () -> x.centre(4, 6));
-        thrown("style 4", ARGUMENT, x, () -> x.centre(4, 0));
-        thrown("style -1", ARGUMENT, x, () -> x.centre(-1, 0));
+        thrown("x", INDEX, x, y -> y.centre(4, 6));
+        thrown("style 4", ARGUMENT, x, y -> y.centre(4, 0));
+        thrown("style -1", ARGUMENT, x, y -> y.centre(-1, 0));
         FormulaShapes f = full();
-        thrown("no room", UNSUPPORTED, f, () -> f.centre(0, 0));
-        thrown("argument before room", ARGUMENT, f, () -> f.centre(4, 0));
+        thrown("no room", UNSUPPORTED, f, y -> y.centre(0, 0));
+        thrown("argument before room", ARGUMENT, f, y -> y.centre(4, 0));
     }
 
     private static void promise15Told() {
         FormulaShapes x = new FormulaShapes();
-        thrown("no box", INDEX, x, () -> x.told(0, 0));
+        thrown("no box", INDEX, x, y -> y.told(0, 0));
         x.box(1, 2, 3);
         shape(x, "a box", 0, 1, 2, 3, 0);
-        thrown("box 1", INDEX, x, () -> x.told(1, 0));
-        thrown("box -1", INDEX, x, () -> x.told(-1, 0));
-        thrown("box 120", INDEX, x, () -> x.told(120, 0));
-        thrown("what -1", INDEX, x, () -> x.told(0, -1));
-        thrown("what 4", INDEX, x, () -> x.told(0, 4));
+        thrown("box 1", INDEX, x, y -> y.told(1, 0));
+        thrown("box -1", INDEX, x, y -> y.told(-1, 0));
+        thrown("box 120", INDEX, x, y -> y.told(120, 0));
+        thrown("what -1", INDEX, x, y -> y.told(0, -1));
+        thrown("what 4", INDEX, x, y -> y.told(0, 4));
     }
 
     private static void promise16Part() {
@@ -679,15 +610,15 @@ public final class PromisesTest {
         x.fraction(0, 0, 0, 5);
         lies(x, "a fraction", 1, 0, 0, 21, 0, 0, -20, NONE, 0, -2);
         rule(x, "a fraction", 1, 2, 1, 5);
-        thrown("no parts", INDEX, x, () -> x.part(0, 0, 0));
-        thrown("box 2", INDEX, x, () -> x.part(2, 0, 0));
-        thrown("box -1", INDEX, x, () -> x.part(-1, 0, 0));
-        thrown("part 3", INDEX, x, () -> x.part(1, 3, 0));
-        thrown("part -1", INDEX, x, () -> x.part(1, -1, 0));
-        thrown("a part far off", INDEX, x, () -> x.part(1, Integer.MAX_VALUE, 0));
-        thrown("what -1", INDEX, x, () -> x.part(1, 0, -1));
-        thrown("what 6", INDEX, x, () -> x.part(1, 0, 6));
-        thrown("what 6 of a rule", INDEX, x, () -> x.part(1, 2, 6));
+        thrown("no parts", INDEX, x, y -> y.part(0, 0, 0));
+        thrown("box 2", INDEX, x, y -> y.part(2, 0, 0));
+        thrown("box -1", INDEX, x, y -> y.part(-1, 0, 0));
+        thrown("part 3", INDEX, x, y -> y.part(1, 3, 0));
+        thrown("part -1", INDEX, x, y -> y.part(1, -1, 0));
+        thrown("a part far off", INDEX, x, y -> y.part(1, Integer.MAX_VALUE, 0));
+        thrown("what -1", INDEX, x, y -> y.part(1, 0, -1));
+        thrown("what 6", INDEX, x, y -> y.part(1, 0, 6));
+        thrown("what 6 of a rule", INDEX, x, y -> y.part(1, 2, 6));
     }
 
     private static void promise17Boxes() {

@@ -119,7 +119,8 @@ abstract class Checks {
             List<String> got = asked(tried, question);
             List<String> untouched = asked(scene.make(), question);
             if (!got.equals(untouched)) {
-                fail(what + ": the refused call changed something: " + got + ", due is " + untouched);
+                fail(what + ": the refused call changed something: " + got + ", due is "
+                        + untouched);
             }
         }
     }
