@@ -6,27 +6,49 @@ import java.util.Arrays;
 import java.util.Set;
 import java.util.TreeSet;
 
-/** The class shows the document's face and no other member that is not private. */
+/**
+ * The class shows the document's face, with the exceptions that each call names in their order, and
+ * no other member that is not private.
+ */
 public final class FaceTest {
 
     private static final String[] DUE = {
         "public static final int NONE",
         "public FormulaShapes()",
-        "public int parameter(int, int, int)",
-        "public int set(int, int)",
-        "public int box(int, int, int)",
-        "public int sign(int, int)",
-        "public void pieces(int, int, int, int, int)",
-        "public int signOf(int, int)",
-        "public int fraction(int, int, int, int)",
-        "public int root(int, int, int)",
-        "public int signs(int, boolean, int, boolean, int, int)",
-        "public int limits(int, int, int, int)",
-        "public int brackets(int, int, int, int)",
-        "public int row(int, int, int)",
-        "public int centre(int, int)",
-        "public int told(int, int)",
-        "public int part(int, int, int)",
+        "public int parameter(int, int, int)"
+            + " throws IndexOutOfBoundsException, IllegalArgumentException",
+        "public int set(int, int) throws IndexOutOfBoundsException, IllegalArgumentException",
+        "public int box(int, int, int)"
+            + " throws IllegalArgumentException, UnsupportedOperationException",
+        "public int sign(int, int) throws IndexOutOfBoundsException, UnsupportedOperationException",
+        "public void pieces(int, int, int, int, int)"
+            + " throws IndexOutOfBoundsException, IllegalArgumentException",
+        "public int signOf(int, int)"
+            + " throws IndexOutOfBoundsException, IllegalArgumentException, "
+            + "IllegalStateException, UnsupportedOperationException",
+        "public int fraction(int, int, int, int)"
+            + " throws IndexOutOfBoundsException, IllegalArgumentException, "
+            + "UnsupportedOperationException",
+        "public int root(int, int, int)"
+            + " throws IndexOutOfBoundsException, IllegalArgumentException, "
+            + "IllegalStateException, UnsupportedOperationException",
+        "public int signs(int, boolean, int, boolean, int, int)"
+            + " throws IndexOutOfBoundsException, IllegalArgumentException, "
+            + "UnsupportedOperationException",
+        "public int limits(int, int, int, int)"
+            + " throws IndexOutOfBoundsException, IllegalArgumentException, "
+            + "UnsupportedOperationException",
+        "public int brackets(int, int, int, int)"
+            + " throws IndexOutOfBoundsException, IllegalArgumentException, "
+            + "IllegalStateException, UnsupportedOperationException",
+        "public int row(int, int, int)"
+            + " throws IndexOutOfBoundsException, IllegalArgumentException, "
+            + "UnsupportedOperationException",
+        "public int centre(int, int)"
+            + " throws IndexOutOfBoundsException, IllegalArgumentException, "
+            + "UnsupportedOperationException",
+        "public int told(int, int) throws IndexOutOfBoundsException",
+        "public int part(int, int, int) throws IndexOutOfBoundsException",
         "public int boxes()",
     };
 
@@ -54,9 +76,13 @@ public final class FaceTest {
             }
             faceNames.add(m.getName());
             got.add(Modifier.toString(m.getModifiers()) + " " + m.getReturnType() + " "
-                    + m.getName() + types(m.getParameterTypes()));
+                    + m.getName() + types(m.getParameterTypes()) + named(m.getExceptionTypes()));
         }
         boolean right = true;
+        if (FormulaShapes.NONE != -1) {
+            right = false;
+            System.out.println("NONE is " + FormulaShapes.NONE + ", due is -1");
+        }
         Set<String> due = new TreeSet<>(Arrays.asList(DUE));
         if (!got.equals(due)) {
             right = false;
@@ -90,5 +116,14 @@ public final class FaceTest {
             b.append(i == 0 ? "" : ", ").append(types[i]);
         }
         return b.append(")").toString();
+    }
+
+    /** The exceptions that a call names, in their order. */
+    private static String named(Class<?>[] exceptions) {
+        StringBuilder b = new StringBuilder();
+        for (int i = 0; i < exceptions.length; i++) {
+            b.append(i == 0 ? " throws " : ", ").append(exceptions[i].getSimpleName());
+        }
+        return b.toString();
     }
 }
